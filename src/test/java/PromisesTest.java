@@ -124,7 +124,20 @@ public final class PromisesTest {
         x.leave(0);
         x.join(1, 1);
         due.is("join: the latest left at 102", x.passOf(1), 102);
+        latestLeftMayBeLessFar();
         leftPassWaitsForAnEmptyHouse();
+    }
+
+    private static void latestLeftMayBeLessFar() {
+        StrideHeap x = new StrideHeap(4, BIG_100);
+        x.join(0, 10);
+        x.join(1, 1);
+        x.turns(3);
+        x.leave(1);
+        x.leave(0);
+        due.is("join: a refused leave counts for nothing", x.leave(1), -2);
+        x.join(3, 5);
+        due.is("join: the latest left at 20, one before it at 100", x.passOf(3), 20);
     }
 
     private static void leftPassWaitsForAnEmptyHouse() {
