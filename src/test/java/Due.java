@@ -24,6 +24,13 @@ final class Due {
         }
     }
 
+    void order(String when, StrideHeap x, int... clients) {
+        for (int k = 0; k < clients.length; k++) {
+            is(when + ": order(" + k + ")", x.order(k), clients[k]);
+        }
+        is(when + ": order(" + clients.length + ")", x.order(clients.length), -1);
+    }
+
     boolean anyWrong() {
         return wrong != 0;
     }
