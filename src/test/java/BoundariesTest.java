@@ -350,6 +350,10 @@ public final class BoundariesTest {
         x.join(1, 1);
         due.is("join: the only one's pass", x.passOf(1), 20);
         due.order("join: behind the only one", x, 0, 1);
+        x = threeIn();
+        x.leave(0);
+        x.join(0, 1);
+        due.is("join: the latest left further, at 20", x.passOf(0), 8);
     }
 
     /** "when nobody is in, with the pass with which the latest one left" */
