@@ -8,6 +8,8 @@ import java.util.TreeMap;
 public final class ModelTest {
     private static final int RUNS = 400;
     private static final int CALLS = 512;
+    /** Neighbouring seeds give nearly the same first draw, so they are put far apart. */
+    private static final long SEED_STEP = 0x9E3779B97F4A7C15L;
     private static final int[] ODD = {
         Integer.MIN_VALUE, -32768, -1000, -65, -64, -2, -1, 0, 1, 63, 64, 65, 999, 1000, 1001,
         32766, 32767, 32768, 32769, Integer.MAX_VALUE};
@@ -143,9 +145,10 @@ public final class ModelTest {
         final boolean fewTickets;
         final int longTurns;
         final int leaving;
+        final boolean crowded;
 
         Run(int seed) {
-            random = new Random(seed);
+            random = new Random(seed * SEED_STEP);
             int cap = random.nextInt(4) == 0 ? ODD[random.nextInt(ODD.length)] : random.nextInt(8) * 9;
             int big = random.nextInt(3) == 0 ? ODD[random.nextInt(ODD.length)] : random.nextInt();
             // Few clients, few tickets and many long turns reach the greatest pass.
@@ -156,7 +159,9 @@ public final class ModelTest {
             }
             fewTickets = far || random.nextInt(3) == 0;
             longTurns = far ? 60 : random.nextInt(10);
-            leaving = random.nextInt(20);
+            // Chance alone hardly ever brings 64 clients in at once.
+            crowded = seed % 5 == 1;
+            leaving = crowded ? 2 : random.nextInt(20);
             heap = new StrideHeap(cap, big);
             model = new Model(cap, big);
             name = "run " + seed + " (" + cap + ", " + big + "), call ";
@@ -171,6 +176,10 @@ public final class ModelTest {
                 int[] edges = {0, 1, model.big - 1, model.big, -1, Integer.MIN_VALUE, Integer.MAX_VALUE};
                 return edges[random.nextInt(edges.length)];
             }
+            return goodTickets();
+        }
+
+        int goodTickets() {
             return 1 + random.nextInt(fewTickets ? Math.min(3, model.big - 1) : model.big - 1);
         }
 
@@ -179,10 +188,11 @@ public final class ModelTest {
         }
 
         void call(int number) {
-            int kind = random.nextInt(100 + longTurns + leaving);
+            boolean filling = crowded && number < model.cap;
+            int kind = filling ? 0 : random.nextInt(100 + longTurns + leaving);
             String call = name + number + ": ";
-            int client = client();
-            int tickets = tickets();
+            int client = filling ? model.cap - 1 - number : client();
+            int tickets = filling ? goodTickets() : tickets();
             int many = kind >= 100 + leaving ? 1000 : many();
             if (kind < 15) {
                 due.is(call + "join(" + client + ", " + tickets + ")",
